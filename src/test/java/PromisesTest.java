@@ -134,7 +134,8 @@ public final class PromisesTest {
     private static void issueBehindUndo() {
         BorderStamps x = new BorderStamps();
         x.issue(0);
-        due("perform()", Due.perform(x, "v01:0-9*1;x01?;.3"), 3);
+        due("perform()", Due.perform(x, "v01:0-1*1;x01?;.3"), 3);
+        due("count(4)", x.count(4), 1);
         due("undo()", x.undo(), 1);
         due("undo()", x.undo(), 0);
         due("issue(2)", x.issue(2), 0);
