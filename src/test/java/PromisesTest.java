@@ -46,16 +46,6 @@ public final class PromisesTest {
         DUE.end();
     }
 
-    /** A bureau with one holder at home in 0, who may enter 1 to 5 at any time, for 99 days each. */
-    private static BorderStamps traveller() {
-        BorderStamps x = new BorderStamps();
-        x.issue(0);
-        for (int country = 1; country < 6; country++) {
-            x.grant(0, country, 0, 999, 99);
-        }
-        return x;
-    }
-
     private static void constants() {
         promise = 0;
         due("UNKNOWN", BorderStamps.UNKNOWN, -1);
@@ -148,7 +138,7 @@ public final class PromisesTest {
 
     private static void renew() {
         promise = 3;
-        BorderStamps x = traveller();
+        BorderStamps x = Ready.traveller();
         due("renew(-1)", x.renew(-1), UNKNOWN);
         due("renew(1)", x.renew(1), UNKNOWN);
         due("renew(6)", x.renew(6), UNKNOWN);
@@ -219,7 +209,7 @@ public final class PromisesTest {
 
     private static void revoke() {
         promise = 5;
-        BorderStamps x = traveller();
+        BorderStamps x = Ready.traveller();
         due("revoke(-1, 1)", x.revoke(-1, 1), UNKNOWN);
         due("revoke(1, 1)", x.revoke(1, 1), UNKNOWN);
         due("revoke(0, -1)", x.revoke(0, -1), UNKNOWN);
@@ -244,7 +234,7 @@ public final class PromisesTest {
 
     private static void turnBorder() {
         promise = 6;
-        BorderStamps x = traveller();
+        BorderStamps x = Ready.traveller();
         due("turnBorder(-1, 0)", x.turnBorder(-1, 0), UNKNOWN);
         due("turnBorder(0, 6)", x.turnBorder(0, 6), UNKNOWN);
         due("turnBorder(6, 6)", x.turnBorder(6, 6), UNKNOWN);
@@ -270,7 +260,7 @@ public final class PromisesTest {
 
     private static void cross() {
         promise = 7;
-        BorderStamps x = traveller();
+        BorderStamps x = Ready.traveller();
         due("cross(0, 1, 0)", x.cross(0, 1, 0), 2);
         dueStamp(x, 0, 0, 0, 0);
         dueStamp(x, 1, 0, 1, 1);
@@ -302,7 +292,7 @@ public final class PromisesTest {
 
     private static void crossRefused() {
         promise = 7;
-        BorderStamps x = traveller();
+        BorderStamps x = Ready.traveller();
         due("cross(-1, 1, 0)", x.cross(-1, 1, 0), UNKNOWN);
         due("cross(1, 1, 4)", x.cross(1, 1, 4), UNKNOWN);
         due("cross(0, -1, 4)", x.cross(0, -1, 4), UNKNOWN);
@@ -328,7 +318,7 @@ public final class PromisesTest {
     }
 
     private static void bookWithoutRoom() {
-        BorderStamps x = traveller();
+        BorderStamps x = Ready.traveller();
         for (int i = 0; i < 7; i++) {
             due("cross", x.cross(0, i % 2 == 0 ? 1 : 0, 0), 2 * i + 2);
         }
@@ -347,7 +337,7 @@ public final class PromisesTest {
     }
 
     private static void sixtyCrossings() {
-        BorderStamps x = traveller();
+        BorderStamps x = Ready.traveller();
         for (int i = 0; i < 59; i++) {
             due("cross " + i, x.cross(0, i % 2 == 0 ? 1 : 0, 3), 0);
         }
@@ -394,7 +384,7 @@ public final class PromisesTest {
     }
 
     private static void overstays() {
-        BorderStamps x = traveller();
+        BorderStamps x = Ready.traveller();
         x.issue(5);
         x.grant(0, 1, 2, 6, 3);
         due("cross(0, 1, 0) ahead of its span", x.cross(0, 1, 0), -13);
@@ -412,12 +402,12 @@ public final class PromisesTest {
         due("pass(4) without a visa", x.pass(4), 4);
         due("cross(0, 0, 3)", x.cross(0, 0, 3), 2);
         due("pass(2) at home, told to be in 1", x.pass(2), 0);
-        BorderStamps y = traveller();
+        BorderStamps y = Ready.traveller();
         y.grant(0, 1, 0, 20, 1);
         y.cross(0, 1, 2);
         due("pass(9), of which no stamp tells", y.pass(9), 0);
         due("pass(20), by the span alone", y.pass(20), 8);
-        BorderStamps z = traveller();
+        BorderStamps z = Ready.traveller();
         z.grant(0, 1, 0, 9, 4);
         z.cross(0, 1, 0);
         due("pass(4), to the visa's last day but some", z.pass(4), 0);
@@ -575,7 +565,7 @@ public final class PromisesTest {
     }
 
     private static void fault(String text, int fault) {
-        BorderStamps x = traveller();
+        BorderStamps x = Ready.traveller();
         due("perform() of " + text, Due.perform(x, text), -100 - fault);
         due("stopped(0) of " + text, x.stopped(0), NONE);
         due("count(11) of " + text, x.count(11), text.length());
@@ -690,7 +680,7 @@ public final class PromisesTest {
 
     private static void restore() {
         promise = 15;
-        BorderStamps x = traveller();
+        BorderStamps x = Ready.traveller();
         due("restore()", x.restore(), NONE);
         due("count(10)", x.count(10), 4);
         x.undo();
@@ -726,7 +716,7 @@ public final class PromisesTest {
 
     private static void passport() {
         promise = 16;
-        BorderStamps x = traveller();
+        BorderStamps x = Ready.traveller();
         due("passport(-1, 0)", x.passport(-1, 0), UNKNOWN);
         due("passport(1, 9)", x.passport(1, 9), UNKNOWN);
         due("passport(0, -1)", x.passport(0, -1), BAD_VALUE);
@@ -753,7 +743,7 @@ public final class PromisesTest {
 
     private static void stamp() {
         promise = 17;
-        BorderStamps x = traveller();
+        BorderStamps x = Ready.traveller();
         due("stamp(0, 0, 0)", x.stamp(0, 0, 0), UNKNOWN);
         x.cross(0, 1, 1);
         due("stamp(-1, 0, 0)", x.stamp(-1, 0, 0), UNKNOWN);
@@ -830,7 +820,7 @@ public final class PromisesTest {
 
     /** What counts is where the stamps tell the holder at a day's end, not what he passes through. */
     private static void usedByTheEndOfTheDay() {
-        BorderStamps x = traveller();
+        BorderStamps x = Ready.traveller();
         x.cross(0, 1, 0);
         x.cross(0, 2, 0);
         x.pass(1);
@@ -851,7 +841,7 @@ public final class PromisesTest {
 
     private static void reason() {
         promise = 19;
-        BorderStamps x = traveller();
+        BorderStamps x = Ready.traveller();
         due("reason(-1, 0)", x.reason(-1, 0), UNKNOWN);
         due("reason(1, 0)", x.reason(1, 0), UNKNOWN);
         due("reason(0, -1)", x.reason(0, -1), UNKNOWN);
@@ -896,7 +886,7 @@ public final class PromisesTest {
 
     private static void stay() {
         promise = 20;
-        BorderStamps x = traveller();
+        BorderStamps x = Ready.traveller();
         due("stay(-1, 0, 0, 9, true)", x.stay(-1, 0, 0, 9, true), UNKNOWN);
         due("stay(1, 0, 9, 0, true)", x.stay(1, 0, 9, 0, true), UNKNOWN);
         due("stay(0, 6, 9, 0, true)", x.stay(0, 6, 9, 0, true), UNKNOWN);
@@ -940,7 +930,7 @@ public final class PromisesTest {
 
     private static void wayTo() {
         promise = 21;
-        BorderStamps x = traveller();
+        BorderStamps x = Ready.traveller();
         due("wayTo(-1, 0)", x.wayTo(-1, 0), UNKNOWN);
         due("wayTo(1, 0)", x.wayTo(1, 0), UNKNOWN);
         due("wayTo(0, -1)", x.wayTo(0, -1), UNKNOWN);
@@ -988,7 +978,7 @@ public final class PromisesTest {
     }
 
     private static void wayByDays() {
-        BorderStamps x = traveller();
+        BorderStamps x = Ready.traveller();
         x.grant(0, 1, 0, 99, 1);
         x.cross(0, 1, 0);
         x.pass(1);
@@ -1096,7 +1086,7 @@ public final class PromisesTest {
 
     private static void count() {
         promise = 25;
-        BorderStamps x = traveller();
+        BorderStamps x = Ready.traveller();
         due("count(-1)", x.count(-1), BAD_VALUE);
         due("count(12)", x.count(12), BAD_VALUE);
         x.issue(1);
